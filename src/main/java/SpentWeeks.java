@@ -242,7 +242,7 @@ public final class SpentWeeks {
         if (!isPerson(person) || !within(n, 0, MOST_AHEAD)) {
             return BAD;
         }
-        return n == 0 ? 0 : now.person[person].lapsing(now.month + n - 1, now.term);
+        return now.person[person].lapsing(now.month + n - 1, now.term);
     }
 
     public int triedFirst(int n, int seed, int what) {
@@ -262,12 +262,9 @@ public final class SpentWeeks {
         if (!isPerson(person) || !isRow(row) || !within(n, 1, MOST_COVERED)) {
             return BAD;
         }
-        int finding = rows.findingOf(row, i, n);
-        if (finding != 0) {
-            return found(finding);
-        }
-        if (!areTold(row, i, n, 1, MOST_AT_ONCE)) {
-            return BAD;
+        int refusal = refusalOfTold(row, i, n, 1, MOST_AT_ONCE);
+        if (refusal != 0) {
+            return refusal;
         }
         deeds.begin(now, told, n);
         return fine(deeds.leastCover(now.person[person]));
@@ -277,12 +274,9 @@ public final class SpentWeeks {
         if (!isPerson(person) || !isRow(row) || !within(n, 1, MOST_ORDERED) || !within(k, -1, n - 1)) {
             return BAD;
         }
-        int finding = rows.findingOf(row, i, n);
-        if (finding != 0) {
-            return found(finding);
-        }
-        if (!areTold(row, i, n, 1, MOST_AT_ONCE)) {
-            return BAD;
+        int refusal = refusalOfTold(row, i, n, 1, MOST_AT_ONCE);
+        if (refusal != 0) {
+            return refusal;
         }
         deeds.begin(now, told, n);
         deeds.findBestOrder(now.person[person]);
@@ -320,11 +314,10 @@ public final class SpentWeeks {
         if (!isRow(row) || !within(n, 1, MOST_SALES) || !within(what, 0, 1)) {
             return BAD;
         }
-        int finding = rows.findingOf(row, i, SALE_ITEMS * n);
-        if (finding != 0) {
-            return found(finding);
+        int refusal = refusalOfTold(row, i, SALE_ITEMS * n, 0, MOST_AT_ONCE);
+        if (refusal != 0) {
+            return refusal;
         }
-        rows.tell(row, i, SALE_ITEMS * n, told);
         for (int k = 0; k < n; k++) {
             int at = SALE_ITEMS * k;
             if (!isSale(told[at], told[at + 1], told[at + 2], told[at + 3])) {
@@ -343,12 +336,9 @@ public final class SpentWeeks {
         if (!isRow(row) || !within(person, -1, now.people - 1)) {
             return BAD;
         }
-        int finding = rows.findingOf(row, i, now.people);
-        if (finding != 0) {
-            return found(finding);
-        }
-        if (!areTold(row, i, now.people, 0, MOST_DAYS)) {
-            return BAD;
+        int refusal = refusalOfTold(row, i, now.people, 0, MOST_DAYS);
+        if (refusal != 0) {
+            return refusal;
         }
         return fine(person < 0 ? now.falselyTold(told) : now.fewestDeeds(person, told[person]));
     }
@@ -357,12 +347,9 @@ public final class SpentWeeks {
         if (!isRow(row) || !within(n, 0, MOST_WEIGHTS) || !within(days, 0, MOST_DAYS) || !within(what, 0, 1)) {
             return BAD;
         }
-        int finding = rows.findingOf(row, i, n);
-        if (finding != 0) {
-            return found(finding);
-        }
-        if (!areTold(row, i, n, 1, MOST_AT_ONCE)) {
-            return BAD;
+        int refusal = refusalOfTold(row, i, n, 1, MOST_AT_ONCE);
+        if (refusal != 0) {
+            return refusal;
         }
         sets.find(told, n, days);
         return fine(what == 0 ? sets.howMany : sets.least);
@@ -410,7 +397,7 @@ public final class SpentWeeks {
             return BAD;
         }
         asks.traced = 0;
-        return what == 0 ? asks.sizeOf(now.person[one]) : asks.markOf(now.person[one]);
+        return what == 0 ? asks.sizeOf(now.person[one], 0) : asks.markOf(now.person[one], 0);
     }
 
     public int trace(int i) {
@@ -457,15 +444,19 @@ public final class SpentWeeks {
         return within(n, 0, MOST_AHEAD) && within(seed, 1, MOST_SEED);
     }
 
-    /** Takes n ITEMS of a ROW, whose places were looked at, as what is told. */
-    private boolean areTold(int row, int i, int n, int least, int most) {
+    /** Takes n ITEMS of a ROW as what is told; 0 if they are there, and none is out of bounds. */
+    private int refusalOfTold(int row, int i, int n, int least, int most) {
+        int finding = rows.findingOf(row, i, n);
+        if (finding != 0) {
+            return found(finding);
+        }
         rows.tell(row, i, n, told);
         for (int k = 0; k < n; k++) {
             if (!within(told[k], least, most)) {
-                return false;
+                return BAD;
             }
         }
-        return true;
+        return 0;
     }
 
     private static int amount(Person one, int what) {
@@ -1177,8 +1168,13 @@ public final class SpentWeeks {
         }
     }
 
-    /** ASKS of one: the BODY of the nearest KIND begins, and leaves its number. */
+    /**
+     * ASKS of one: the BODY of the nearest KIND begins, and leaves its number. No KIND asks
+     * SIZE and MARK of each other for ever; the depth is carried, should a BODY come that does.
+     */
     private static final class Asks {
+        private static final int DEEPEST = 8;
+
         final int[] bodies = new int[TRACED];
         int traced = 0;
 
@@ -1189,24 +1185,30 @@ public final class SpentWeeks {
             }
         }
 
-        int sizeOf(Person one) {
+        int sizeOf(Person one, int depth) {
+            if (depth > DEEPEST) {
+                return NONE;
+            }
             switch (one.kind) {
                 case CITIZEN:
-                case HEIR: return sizeOfCitizen(one);
-                case SAINT: return sizeOfSaint(one);
+                case HEIR: return sizeOfCitizen(one, depth);
+                case SAINT: return sizeOfSaint(one, depth);
                 case THIEF: return sizeOfThief(one);
                 case PARDONED: return sizeOfPardoned(one);
                 default: return sizeOfAny(one);
             }
         }
 
-        int markOf(Person one) {
+        int markOf(Person one, int depth) {
+            if (depth > DEEPEST) {
+                return NONE;
+            }
             switch (one.kind) {
                 case CITIZEN: return markOfCitizen(one);
                 case SAINT: return markOfSaint(one);
                 case HEIR: return markOfHeir(one);
                 case THIEF:
-                case PARDONED: return markOfThief(one);
+                case PARDONED: return markOfThief(one, depth);
                 default: return markOfAny(one);
             }
         }
@@ -1216,15 +1218,15 @@ public final class SpentWeeks {
             return one.unspent();
         }
 
-        private int sizeOfCitizen(Person one) {
+        private int sizeOfCitizen(Person one, int depth) {
             begin(11);
             int given = sizeOfAny(one);
-            return given + markOf(one);
+            return given + markOf(one, depth + 1);
         }
 
-        private int sizeOfSaint(Person one) {
+        private int sizeOfSaint(Person one, int depth) {
             begin(12);
-            return -sizeOfCitizen(one);
+            return -sizeOfCitizen(one, depth);
         }
 
         private int sizeOfThief(Person one) {
@@ -1252,10 +1254,10 @@ public final class SpentWeeks {
             return markOfCitizen(one) - 1000;
         }
 
-        private int markOfThief(Person one) {
+        private int markOfThief(Person one, int depth) {
             begin(23);
             int given = markOfAny(one);
-            return given - sizeOf(one);
+            return given - sizeOf(one, depth + 1);
         }
 
         private int markOfSaint(Person one) {

@@ -17,6 +17,7 @@ public final class ActsTest {
         lotsLapse();
         actsAreUndone();
         actsAreForgotten();
+        monthsHaveAnEnd();
         check.end();
     }
 
@@ -320,5 +321,19 @@ public final class ActsTest {
         x.sentence(0, 1000);
         x.sale(0, 1, 999, 0);
         check.due("what is refused is no act", x.count(5), 0);
+    }
+
+    /** Beyond the 512 calls that the document knows, but nothing nearer shows that there is an end. */
+    private static void monthsHaveAnEnd() {
+        SpentWeeks x = Check.with("y1,1;");
+        for (int k = 0; k < 999; k++) {
+            x.month(1);
+        }
+        check.due("999 are gone", x.count(2), 999);
+        check.due("month(1)", x.month(1), FULL);
+        check.due("BAD ahead of FULL", x.month(0), BAD);
+        check.due("none more", x.count(2), 999);
+        x.undo();
+        check.due("998 are gone", x.month(1), 0);
     }
 }

@@ -132,6 +132,9 @@ public final class AskedTest {
         for (int what = 0; what < 7; what++) {
             check.due("count(" + what + ")", x.count(what), wants[what]);
         }
+        x.sentence(0, 3);
+        x.sentence(5, 4);
+        check.due("UNSPENT of the first and last, too", x.count(3), 16 + 17 + 18 + 19 + 7);
         check.due("count(7)", x.count(7), BAD);
         check.due("count(-1)", x.count(-1), BAD);
     }

@@ -61,6 +61,9 @@ public final class ForetoldTest {
         check.due("in sixty", x.lapsed(0, 60), first + 3);
         check.due("an heir's", x.lapsed(1, 60), 0);
         check.due("a thief's", x.lapsed(2, 60), x.person(2, 0));
+        x.month(2);
+        check.due("none", x.lapsed(0, 0), 0);
+        check.due("in one, by now", x.lapsed(0, 1) == x.lot(0, 0, 0) && x.lapsed(0, 1) > 0 ? 1 : 0, 1);
         check.due("n below", x.lapsed(0, -1), BAD);
         check.due("n above", x.lapsed(0, 61), BAD);
         check.due("nobody", x.lapsed(3, 1), BAD);
@@ -179,6 +182,7 @@ public final class ForetoldTest {
         for (int k = 0; k < 11; k++) {
             x.deed(2, 999);
         }
+        check.due("another's order", x.bestOrder(0, 0, 0, 3, 0), 2);
         check.due("owing 9999 ahead", x.bestOrder(2, 0, 0, 3, -1), 9999);
         check.due("the first order", x.bestOrder(2, 0, 0, 3, 0), 0);
     }

@@ -29,10 +29,12 @@ public final class RowsTest {
         check.due("BAD ahead of SIZE", x.row(0, 3, -1), BAD);
         check.due("BAD ahead of SIZE", x.row(8, 0, -1), BAD);
         x.set(7, 39, 5);
+        x.set(7, 0, 5);
+        check.due("an item that is not 0", x.satFor(7, 39, 1, 5, 0), 1);
+        check.due("an item that is not 0", x.satFor(7, 0, 1, 5, 0), 1);
         check.due("a row in place of one", x.row(7, 2, 40), 40);
-        check.due("row(1, 2, 40)", x.row(1, 2, 40), 40);
-        Check.row(x, 2, 2, 3);
-        check.due("satFor tells that items are 0 anew", x.satFor(7, 39, 1, 0, 0), BAD);
+        check.due("the last item is 0 anew", x.satFor(7, 39, 1, 5, 0), BAD);
+        check.due("the first item is 0 anew", x.satFor(7, 0, 1, 5, 0), BAD);
         check.due("a row of fewer", x.row(7, 2, 3), 3);
         check.due("set beyond it", x.set(7, 3, 1), PLACE);
         check.due("SIZE leaves the row", x.row(7, 0, -5), SIZE);

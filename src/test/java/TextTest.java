@@ -92,6 +92,8 @@ public final class TextTest {
         faulty(law + "c010,0,0;", 6, 1);
         faulty(law + "c0", 7, 1);
         faulty(law + "c0;", 7, 1);
+        faulty(law + "c0,", 8, 1);
+        faulty(law + "c0,5", 9, 1);
         faulty(law + "c0,x", 8, 1);
         faulty(law + "c0,100,0;", 8, 1);
         faulty(law + "c0,99;", 10, 1);
@@ -151,5 +153,27 @@ public final class TextTest {
         check.due("CASH", x.person(0, 2), 2);
         check.due("none", Check.county(x, "y2,2;"), 0);
         check.due("nobody", x.kind(0), BAD);
+        check.due("what was on the tape is gone", Check.county(x, "y2,"), -1000103);
+        check.due("fault", x.fault(), 1);
+        foretellingsLeaveNothing();
+    }
+
+    /** A COUNTY that is read has nothing of one that was only foretold. */
+    private static void foretellingsLeaveNothing() {
+        SpentWeeks x = Check.with("y24,20;c9,10,50;h9,30,99;");
+        for (int one = 0; one < 2; one++) {
+            x.sentence(one, 900);
+            x.deed(one, 999);
+            x.sentence(one, 900);
+        }
+        x.ahead(0, 20, 5, 1);
+        check.due("another", Check.county(x, "y2,2;t0,1,2;p0,3,4;"), 2);
+        for (int one = 0; one < 2; one++) {
+            check.due("UNSPENT", x.person(one, 0), 0);
+            check.due("OWES", x.person(one, 1), 0);
+            check.due("DONE", x.person(one, 3), 0);
+            check.due("LOTS", x.person(one, 6), 0);
+        }
+        check.due("MONTH", x.count(2), 0);
     }
 }
