@@ -40,6 +40,20 @@ final class Check {
         }
     }
 
+    /** So many DAYS come to one, by SENTENCES of 999 and a last one. */
+    static void give(SpentWeeks x, int one, int days) {
+        for (int left = days; left > 0; left -= 999) {
+            x.sentence(one, Math.min(999, left));
+        }
+    }
+
+    /** One who has no DAYS comes to OWE so many more, by DEEDS of 999 and a last one. */
+    static void owe(SpentWeeks x, int one, int days) {
+        for (int left = days; left > 0; left -= 999) {
+            x.deed(one, Math.min(999, left));
+        }
+    }
+
     void end() {
         System.out.println(wrong == 0 ? all + " answers are as due" : wrong + " of " + all + " answers are not as due");
         if (wrong != 0) {

@@ -430,7 +430,7 @@ public final class ForetoldTest {
         }
         Check.row(x, 0, 1, 0, 1, 4, 9, 3, 2, 1, 7);
         Check.row(x, 1, 1, 9, 8, 7, 6, 5);
-        String ahead = tale(x);
+        String ahead = Tale.now(x);
         x.ahead(0, 60, 5, 1);
         x.triedFirst(60, 5, 1);
         x.lapsed(0, 60);
@@ -442,23 +442,6 @@ public final class ForetoldTest {
         x.wrong(1, 0, -1);
         x.satFor(1, 0, 5, 14, 1);
         x.image(0);
-        x.ask(0, 0);
-        check.due("all is as ahead", ahead.equals(tale(x)) ? 1 : 0, 1);
-    }
-
-    private static String tale(SpentWeeks x) {
-        StringBuilder text = new StringBuilder();
-        for (int one = 0; one < 5; one++) {
-            for (int what = 0; what < 7; what++) {
-                text.append(x.person(one, what)).append(' ');
-            }
-            for (int lot = 0; lot < 6; lot++) {
-                text.append(x.lot(one, lot, 0)).append(' ').append(x.lot(one, lot, 1)).append(' ');
-            }
-        }
-        for (int what = 0; what < 7; what++) {
-            text.append(x.count(what)).append(' ');
-        }
-        return text.toString();
+        check.due("all is as ahead", ahead.equals(Tale.now(x)) ? 1 : 0, 1);
     }
 }

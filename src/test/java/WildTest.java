@@ -28,11 +28,11 @@ public final class WildTest {
                 boolean edge = chance.nextInt(5) == 0;
                 a[k] = edge ? EDGES[chance.nextInt(EDGES.length)] : chance.nextInt(8);
             }
-            String ahead = tale(x);
+            String ahead = Tale.now(x);
             int answer = call(x, which, a);
             boolean refused = answer <= -1000001;
             if (refused && which != 6) {
-                check.due(name + "call " + which + " is refused, changes nothing", ahead.equals(tale(x)) ? 1 : 0, 1);
+                check.due(name + "call " + which + " is refused, changes nothing", ahead.equals(Tale.now(x)) ? 1 : 0, 1);
             }
             check.due(name + "call " + which + " answers as told",
                 which == 1 || answer >= -1000003 || answer <= -1000011 && answer >= -1000220 ? 1 : 0, 1);
@@ -87,24 +87,5 @@ public final class WildTest {
             case 34: return x.row(a[0] & 7, 2, a[1] & 31);
             default: return x.status();
         }
-    }
-
-    private static String tale(SpentWeeks x) {
-        StringBuilder text = new StringBuilder();
-        for (int what = 0; what < 7; what++) {
-            text.append(x.count(what)).append(' ');
-        }
-        for (int one = 0; one < x.count(1); one++) {
-            for (int what = 0; what < 7; what++) {
-                text.append(x.person(one, what)).append(' ');
-            }
-            for (int lot = 0; lot < x.person(one, 6); lot++) {
-                text.append(x.lot(one, lot, 0)).append(' ').append(x.lot(one, lot, 1)).append(' ');
-            }
-        }
-        for (int k = 0; k < 16; k++) {
-            text.append(x.trace(k)).append(' ');
-        }
-        return text.append(x.fault()).toString();
     }
 }
